@@ -102,6 +102,12 @@ public final class WouldBeTest {
         x.clock(0, 1250);
         Checks.due("24: no earlier, the rest would be too short", x.begins(1, 0), 1250 - 140);
         Checks.due("24: latest", x.begins(2, 1), 1210);
+        x.clock(0, 1045);
+        x.become(1, 0);
+        x.truth(1, 3);
+        Checks.due("24: no later, the rest needs its LEAST", x.begins(1, 1), 1042);
+        x.become(1, 20);
+        x.clock(0, 1250);
         Checks.due("24: no such item", x.begins(3, 0), Checks.BEYOND);
         Checks.due("24: item below 0", x.begins(-1, 0), Checks.BEYOND);
         Checks.due("24: what below 0", x.begins(0, -1), Checks.BEYOND);
@@ -138,6 +144,20 @@ public final class WouldBeTest {
         x.clock(0, 100);
         Checks.due("25: only those left", x.drops(1), 8);
         worth();
+        most();
+    }
+
+    private static void most() {
+        OffOnTheSecond x = Checks.with(40, 100, 40, 100, 0, 20, 0, 30);
+        x.clock(0, 240);
+        Checks.due("25: it is not MOST of the others", x.drops(0), 0);
+        x.clock(0, 40);
+        Checks.due("25: LEAST of the others", x.drops(1), 4);
+        x.clock(0, 251);
+        Checks.due("25: above MOST of all", x.drops(1), Checks.NONE);
+        x.drop(2);
+        x.clock(0, 29);
+        Checks.due("25: without the last MOST is enough", x.drops(1), 8);
     }
 
     /** Fewest come first, then what is worth most, then the bits. */
@@ -147,6 +167,16 @@ public final class WouldBeTest {
         Checks.due("25: fits as it is", x.drops(1), 0);
         x.clock(0, 60);
         Checks.due("25: most is left", x.drops(1), 4);
+        Checks.text(x, 0, "(l=10)*9+(l=40)*8+(l=30)");
+        Checks.due("25: the first is worth more", x.drops(1), 4);
+        x.become(0, 20);
+        x.truth(0, 10);
+        Checks.due("25: two go now", x.drops(1), 2 + 4);
+        x.untell(0);
+        x.clock(0, 80);
+        Checks.due("25: the first is worth less", x.drops(1), 1);
+        x.clock(0, 60);
+        x.become(0, 0);
         Checks.text(x, 0, "l=30");
         Checks.due("25: the thirties are worth more", x.drops(0), 1);
         Checks.due("25: by worth", x.drops(1), 8);
