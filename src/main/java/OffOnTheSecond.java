@@ -529,12 +529,15 @@ public final class OffOnTheSecond {
         }
 
         int last() {
-            return at(size - 1);
+            return size > 0 && size <= cells.length ? cells[size - 1] : 0;
         }
 
         int takeLast() {
-            size = Math.max(0, size - 1);
-            return at(size);
+            if (size <= 0 || size > cells.length) {
+                return 0;
+            }
+            size--;
+            return cells[size];
         }
 
         void clear() {
