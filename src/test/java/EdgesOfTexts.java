@@ -75,7 +75,7 @@ final class EdgesOfTexts {
             "'!!!!!k+!!!!!k' text(0)=1 '!!!!!k+!!!!!!k' text(0)=-22 '(((((k)))))*(((((k)))))' text(0)=1 '((((k))+((k))))' text(0)=1",
             "'((((k)+((k))))' text(0)=-24 '(((((k)+(k)))))' text(0)=1 '(((((k)+((k)))))' text(0)=-19 '!(!(!k*!l))' text(0)=1",
             "'!(!(!k*!!l))' text(0)=-18 '!!!!(k)|!!!!!p' text(0)=1 '!!!!((k))' text(0)=-15 '(k)+(k)+(k)+(k)+(k)+(k)+(k)' text(0)=1",
-            "'!k+!k+!k+!k+!k+!k+!k' text(0)=1 law(0,0,0,0)=7");
+            "'!k+!k+!k+!k+!k+!k+!k' text(0)=1 law(0,0,0,0)=7 'k+k+((((((k' text(0)=-19 'k+k*k+!!!!!k' text(0)=1 'k+k*k+!!!!!!k' text(0)=-21");
     }
 
     private static void ints() {
@@ -121,7 +121,8 @@ final class EdgesOfTexts {
                 "!!!!", "((((", "!(!(", "!!!!!p*", "(((((p)*", "!(!(!p*", "p<p&", "!!!!!p<", "!(!(!p<(p)|"}) {
                 next(use, beginning, open);
             }
-            for (String beginning : new String[] {"!!!!!", "(((((", "!(!(!", "p+!!!!!", "(!!!!", "(((((p*"}) {
+            for (String beginning : new String[] {"!!!!!", "(((((", "!(!(!", "p+!!!!!", "(!!!!", "(((((p*",
+                "p+p-(((((", "p*p/p%!!!!!", "p|p&p<p+p*p|(((((", "(p+p)*p+!!!!!", "!p*p+!(!(("}) {
                 next(use, beginning, q);
             }
             for (String beginning : new String[] {"1234", "0000", "p", "(p)", "!p", "!!!!!p", "p<p&p", "p<p|p", "(p<p)", "p+9999",
