@@ -16,6 +16,7 @@ public final class RandomRunsTest {
     };
 
     private final Random random;
+    private final boolean atEdges;
     private final OffOnTheSecond x = new OffOnTheSecond();
     private final PlainModel model = new PlainModel();
     private final List<String> calls = new ArrayList<>();
@@ -23,6 +24,7 @@ public final class RandomRunsTest {
 
     private RandomRunsTest(int seed) {
         random = new Random(seed);
+        atEdges = seed % 3 == 2;
     }
 
     public static void main(String[] args) {
@@ -85,9 +87,12 @@ public final class RandomRunsTest {
         }
     }
 
-    /** Mostly within the bounds, at times just or far beyond them. */
+    /** Mostly within the bounds, at times just or far beyond them; in every third run mostly at the bounds. */
     private int near(int low, int high) {
-        int chance = random.nextInt(40);
+        if (atEdges && random.nextInt(3) > 0) {
+            return random.nextBoolean() ? low : high;
+        }
+        int chance = random.nextInt(atEdges ? 12 : 40);
         if (chance == 0) {
             return low - 1;
         }
